@@ -397,7 +397,7 @@ public final class ChapterBuilder {
 
     public int keep() {
         beginChange();
-        show.kept.record(show.transcript);
+        show.kept.takeVersion(show.transcript);
         return show.kept.total;
     }
 
@@ -520,6 +520,19 @@ public final class ChapterBuilder {
         if (cuts < 0 || cuts >>> show.transcript.boundaryCount() != 0) {
             throw new IllegalArgumentException("a cut is at no boundary");
         }
+    }
+
+    /** The likeness of two rows of word counts, each of which begins at an offset. */
+    private static int percentAlike(int[] one, int oneOffset, int[] other, int otherOffset) {
+        int lesser = 0;
+        int greater = 0;
+        for (int word = 0; word < MAX_WORDS; word++) {
+            int a = one[oneOffset + word];
+            int b = other[otherOffset + word];
+            lesser += Math.min(a, b);
+            greater += Math.max(a, b);
+        }
+        return greater == 0 ? 0 : 100 * lesser / greater;
     }
 
     /** The segments in their order, and the words of the show. */
@@ -777,7 +790,7 @@ public final class ChapterBuilder {
             System.arraycopy(other.durations, 0, durations, 0, MAX_SEGMENTS);
         }
 
-        void record(Transcript transcript) {
+        void takeVersion(Transcript transcript) {
             exists = true;
             segmentCount = transcript.segmentCount;
             total = 0;
@@ -1028,38 +1041,6 @@ public final class ChapterBuilder {
         }
     }
 
-    /** How often each word stands in two runs of segments, and how alike they are. */
-    private static final class Comparison {
-        private final int[] left = new int[MAX_WORDS];
-        private final int[] right = new int[MAX_WORDS];
-
-        void countLeft(Transcript transcript, int from, int to) {
-            Arrays.fill(left, 0);
-            transcript.tally(from, to, left, 0);
-        }
-
-        void countRight(Transcript transcript, int from, int to) {
-            Arrays.fill(right, 0);
-            transcript.tally(from, to, right, 0);
-        }
-
-        int percent() {
-            return percentOf(left, 0, right, 0);
-        }
-
-        static int percentOf(int[] one, int oneOffset, int[] other, int otherOffset) {
-            int lesser = 0;
-            int greater = 0;
-            for (int word = 0; word < MAX_WORDS; word++) {
-                int a = one[oneOffset + word];
-                int b = other[otherOffset + word];
-                lesser += Math.min(a, b);
-                greater += Math.max(a, b);
-            }
-            return greater == 0 ? 0 : 100 * lesser / greater;
-        }
-    }
-
     /** The changes of topic and the best division of the show. */
     private static final class Division {
         // 0 if there is no best division
@@ -1075,7 +1056,9 @@ public final class ChapterBuilder {
         private final int[] lasts = new int[MAX_SEGMENTS];
         private final int[] starts = new int[MAX_SEGMENTS + 1];
         private final long[] ways = new long[MAX_SEGMENTS + 1];
-        private final Comparison comparison = new Comparison();
+        // how often each word stands in the windows of a boundary
+        private final int[] left = new int[MAX_WORDS];
+        private final int[] right = new int[MAX_WORDS];
         private int segmentCount;
         private int least;
         private int most;
@@ -1098,9 +1081,11 @@ public final class ChapterBuilder {
         }
 
         private int windowLikeness(Transcript transcript, int boundary, int window) {
-            comparison.countLeft(transcript, Math.max(0, boundary - window + 1), boundary);
-            comparison.countRight(transcript, boundary + 1, Math.min(segmentCount - 1, boundary + window));
-            return comparison.percent();
+            Arrays.fill(left, 0);
+            Arrays.fill(right, 0);
+            transcript.tally(Math.max(0, boundary - window + 1), boundary, left, 0);
+            transcript.tally(boundary + 1, Math.min(segmentCount - 1, boundary + window), right, 0);
+            return percentAlike(left, 0, right, 0);
         }
 
         /**
@@ -1391,7 +1376,7 @@ public final class ChapterBuilder {
         }
 
         int chapterLikeness(int one, int other) {
-            return Comparison.percentOf(counts, one * MAX_WORDS, counts, other * MAX_WORDS);
+            return percentAlike(counts, one * MAX_WORDS, counts, other * MAX_WORDS);
         }
 
         int titleWord(int chapter, int k) {
