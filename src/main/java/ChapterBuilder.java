@@ -1254,7 +1254,7 @@ public final class ChapterBuilder {
             return next == NONE ? NONE : own + costs[(slot + 1) * MAX_BOUNDARIES + next];
         }
 
-        /** The lowest of the cheapest boundaries for a slot, from a boundary and from a time on; NONE if there is none. */
+        /** Of a slot's cheapest boundaries the lowest, from a boundary and from a time on; NONE if it has none. */
         private int cheapest(int slot, int from, int earliest) {
             int best = NONE;
             int bestOf = NONE;

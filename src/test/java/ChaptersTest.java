@@ -3,6 +3,7 @@ public final class ChaptersTest {
     private static final Check CHECK = new Check();
 
     public static void main(String[] args) {
+        questionsAfterChanges();
         change();
         best();
         none();
@@ -20,6 +21,46 @@ public final class ChaptersTest {
         for (int boundary = 0; boundary < due.length; boundary++) {
             CHECK.equal("change " + boundary, due[boundary], x.change(boundary));
         }
+    }
+
+    /** Each question comes first after a change that gives it another answer. */
+    private static void questionsAfterChanges() {
+        ChapterBuilder x = Check.show(Samples.SHORT_CHAPTERS);
+        CHECK.equal("chapterOf", 3, x.chapterOf(4));
+        x.set(3, 100);
+        CHECK.equal("chapterOf", 0, x.chapterOf(4));
+        x.set(3, 40);
+        CHECK.equal("change", 60, x.change(0));
+        x.set(2, 1);
+        CHECK.equal("change", 34, x.change(0));
+        x.undo();
+        CHECK.equal("chapter", 50, x.chapter(1, 2));
+        x.setDuration(2, 51);
+        CHECK.equal("chapter", 51, x.chapter(1, 2));
+        x.undo();
+        CHECK.equal("worthOf", 20, x.worthOf(1));
+        x.addWord(1, 2);
+        CHECK.isTrue("worthOf", x.worthOf(1) != 20);
+        x.undo();
+        CHECK.equal("worthOf", 20, x.worthOf(1));
+        x.set(0, 41);
+        CHECK.isTrue("isAllowed", !x.isAllowed(1));
+        x.undo();
+        CHECK.isTrue("isAllowed", x.isAllowed(1));
+        x.set(0, 60);
+        CHECK.equal("divisions", 3, x.divisions());
+        x.undo();
+        CHECK.equal("worthWith", 107, x.worthWith(0, true));
+        x.set(3, 30);
+        CHECK.equal("worthWith", 137, x.worthWith(0, true));
+        x.undo();
+        CHECK.equal("priceFor", 66, x.priceFor(4));
+        x.set(0, 60);
+        CHECK.raises("priceFor", Samples.ELEMENT, () -> x.priceFor(4));
+        x.undo();
+        CHECK.equal("worth", 147, x.worth());
+        x.removeSegment(4);
+        CHECK.equal("worth: 60, and 60 for the change at 2 then", 80, x.worth());
     }
 
     private static void change() {
@@ -92,8 +133,13 @@ public final class ChaptersTest {
         ChapterBuilder one = Check.show("set 0 5;set 1 5;seg 5 0 a;");
         CHECK.equal("one segment", 1, one.chapters());
         CHECK.equal("one segment", 0, one.worth());
+        CHECK.equal("its chapter", 0, one.chapterOf(0));
+        CHECK.equal("its division", 1, one.divisions());
+        CHECK.isTrue("its division is allowed", one.isAllowed(0));
         one.setDuration(0, 4);
         CHECK.equal("too short", -1, one.chapters());
+        CHECK.equal("no division", 0, one.divisions());
+        CHECK.isTrue("no division is allowed", !one.isAllowed(0));
         one.setDuration(0, 6);
         CHECK.equal("too long", -1, one.chapters());
     }
@@ -231,6 +277,11 @@ public final class ChaptersTest {
         CHECK.raises("a change of 0 is worth no cut", Samples.ELEMENT, () -> low.priceFor(2));
         low.set(1, 9);
         CHECK.equal("a cut that must be", 100, low.priceFor(2));
+        // {1} is worth 67 - p, and {0, 2} 68 - 2p: only the price 0 makes it the best
+        ChapterBuilder zero = Check.show("set 0 20;set 1 40;set 2 1;seg 20 0 c b a;seg 10 0 a c;seg 10 0 b a;"
+                + "seg 20 0 a b b;");
+        CHECK.equal("3 chapters for nothing", 0, zero.priceFor(3));
+        CHECK.equal("2 chapters must be", 100, zero.priceFor(2));
         CHECK.raises("no segments", Samples.ELEMENT, () -> new ChapterBuilder().priceFor(1));
         CHECK.raises("no segments, wrong number", Samples.ARGUMENT, () -> new ChapterBuilder().priceFor(0));
         ChapterBuilder all = Check.show("set 0 1;set 2 1;" + "seg 9 0 a;seg 9 0 b;".repeat(16));

@@ -91,6 +91,10 @@ public final class EditsTest {
         x.writeChapters();
         CHECK.same("real times", "0 sea-boat;70 market-tea;420 tea-market;480 storm;", Check.written(x));
         CHECK.raises("no segments", Samples.ELEMENT, () -> new ChapterBuilder().writeChapters());
+        ChapterBuilder y = Check.show("set 0 1;set 1 999;set 2 1;seg 9 0 a;seg 1 0 b;"
+                + "seg 90 0 c;seg 900 0 d;seg 9 0 e;");
+        y.writeChapters();
+        CHECK.same("all digits", "0 a;9 b;10 c;100 d;1000 e;", Check.written(y));
     }
 
     private static void undoOf(String what, Change change) {

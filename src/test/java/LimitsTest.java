@@ -167,6 +167,7 @@ public final class LimitsTest {
         for (int chapter = 0; chapter < 32; chapter++) {
             due.append(chapter * 999 + 300 * Math.min(5, chapter)).append(" abcdefgh-bcdefghi-cdefghij;");
         }
+        CHECK.equal("words of the last chapter", 4, x.chapter(31, 3));
         CHECK.equal("length", due.length(), x.writeChapters());
         CHECK.same("text", due.toString(), Check.written(x));
     }
@@ -175,6 +176,8 @@ public final class LimitsTest {
     private static void longestLife() {
         ChapterBuilder x = Check.show("seg 9 9 a b c d e f g h;".repeat(32));
         CHECK.equal("all words", 256, x.count(4));
+        CHECK.equal("the last removed", 31, x.removeSegment(31));
+        CHECK.equal("brought back", 1, x.undo());
         for (int call = 0; call < 400; call++) {
             x.moveSegment(call % 32, call * 7 % 32);
             CHECK.equal("32 segments", 32, x.count(0));
@@ -185,5 +188,10 @@ public final class LimitsTest {
             CHECK.equal("undo", left, x.undo());
         }
         CHECK.equal("uses", 32, x.uses(7, 0, 31));
+        x.keep();
+        for (int left = 31; left >= 0; left--) {
+            CHECK.equal("removeSegment", left, x.removeSegment(left));
+            CHECK.equal("to the end of the show", 9 * left, x.carried(287));
+        }
     }
 }

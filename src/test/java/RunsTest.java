@@ -10,6 +10,8 @@ public final class RunsTest {
         "hull", "keel", "rope", "knot", "buoy"};
 
     private static long seed;
+    private static int divided;
+    private static int placed;
 
     private static int below(int bound) {
         seed = seed * 6364136223846793005L + 1442695040888963407L;
@@ -31,16 +33,22 @@ public final class RunsTest {
             seed = 1000003L * run + 17;
             oneRun(run);
         }
+        // else the runs would say little
+        CHECK.isTrue("most runs have chapters", divided * 2 > RUNS * CALLS);
+        CHECK.isTrue("many runs have slots in their places", placed * 6 > RUNS * CALLS);
         CHECK.end("RunsTest");
     }
 
     private static void oneRun(int run) {
         ChapterBuilder builder = new ChapterBuilder();
         Model model = new Model();
-        int segments = between(0, 9);
+        int segments = run % 20 == 0 ? between(0, 2) : between(4, 10);
         int words = between(2, 27);
         put(builder, model, text(segments, words, false));
         for (int call = 0; call < CALLS; call++) {
+            if (model.size() < 3 && below(4) == 0) {
+                put(builder, model, text(between(5, 10), words, false));
+            }
             oneCall(run, builder, model);
         }
         CHECK.same("run " + run + " written", model.written, Check.written(builder));
@@ -50,7 +58,7 @@ public final class RunsTest {
         StringBuilder text = new StringBuilder();
         int least = between(20, 150);
         text.append("set 0 ").append(least).append(";set 1 ").append(least + between(50, 400)).append(';');
-        text.append("set 3 ").append(between(0, 100)).append(";set 5").append(between(0, 90)).append(';');
+        text.append("set 3 ").append(between(0, 100)).append(";set 5 ").append(between(0, 60)).append(';');
         for (int i = 0; i < segments; i++) {
             text.append("seg ").append(between(20, 99)).append(' ').append(between(0, 12));
             int size = between(1, 8) > 6 ? 8 : between(1, 5);
@@ -61,7 +69,7 @@ public final class RunsTest {
         }
         for (int i = between(0, 3); i > 0; i--) {
             text.append("slot ").append(between(0, 60 * segments + 50)).append(' ').append(between(1, 60)).append(' ');
-            text.append(between(20, 400)).append(';');
+            text.append(between(50, 600)).append(';');
         }
         if (wild && text.length() > 0) {
             damage(text);
@@ -114,6 +122,8 @@ public final class RunsTest {
         int w = near(0, m.state.words.size() - 1);
         int c = near(0, Math.max(0, m.chapters() - 1));
         int t = near(0, m.state.slots.size() - 1);
+        divided += m.chapters() > 1 ? 1 : 0;
+        placed += m.state.slots.size() > 1 && m.placementCost() >= 0 ? 1 : 0;
         int kind = below(70);
         switch (kind) {
             case 0: same(run, "count", () -> m.count(s), () -> x.count(s)); break;
@@ -138,7 +148,7 @@ public final class RunsTest {
                 break;
             }
             case 12: case 13: case 14: {
-                int value = below(3) == 0 ? near(1, 999) : near(1, 120);
+                int value = below(8) == 0 ? near(1, 999) : near(20, 120);
                 same(run, "setDuration", () -> m.setDuration(s, value), () -> x.setDuration(s, value));
                 break;
             }
@@ -148,7 +158,11 @@ public final class RunsTest {
                 break;
             }
             case 17: case 18: same(run, "addWord", () -> m.addWord(s, w), () -> x.addWord(s, w)); break;
-            case 19: same(run, "removeSegment", () -> m.removeSegment(s), () -> x.removeSegment(s)); break;
+            case 19:
+                if (n > 4 || below(4) == 0) {
+                    same(run, "removeSegment", () -> m.removeSegment(s), () -> x.removeSegment(s));
+                }
+                break;
             case 20: case 21: {
                 int to = near(0, n - 1);
                 same(run, "moveSegment", () -> m.moveSegment(s, to), () -> x.moveSegment(s, to));
@@ -185,16 +199,16 @@ public final class RunsTest {
             case 40: case 41: each("likeness", -1, 5, a -> m.likeness(c, a), a -> x.likeness(c, a)); break;
             case 42: case 43: same(run, "mark", () -> m.mark(c, w), () -> x.mark(c, w)); break;
             case 44: case 45: each("title", -1, 3, a -> m.title(c, a), a -> x.title(c, a)); break;
-            case 46: case 47: case 48: {
-                int wished = near(0, below(6) == 0 ? 9999 : m.start(n) + 30);
+            case 46: case 47: case 63: {
+                int wished = near(0, below(12) == 0 ? 9999 : m.start(n));
                 int length = near(1, 300);
-                int reach = below(3) == 0 ? near(0, 999) : near(0, 120);
+                int reach = below(3) == 0 ? near(0, 50) : near(200, 999);
                 same(run, "addSlot", () -> m.addSlot(wished, length, reach), () -> x.addSlot(wished, length, reach));
                 break;
             }
             case 49: same(run, "removeSlot", () -> m.removeSlot(t), () -> x.removeSlot(t)); break;
             case 50: case 51: {
-                int wished = below(3) == 0 && t >= 0 && t < m.state.slots.size()
+                int wished = below(2) == 0 && t >= 0 && t < m.state.slots.size()
                         ? m.state.slots.get(below(m.state.slots.size()))[0] : near(0, m.start(n) + 30);
                 same(run, "moveSlot", () -> m.moveSlot(t, wished), () -> x.moveSlot(t, wished));
                 break;
@@ -210,7 +224,7 @@ public final class RunsTest {
                 same(run, "carried", () -> m.carried(time), () -> x.carried(time));
                 break;
             }
-            case 63: case 64:
+            case 48: case 64:
                 same(run, "writeChapters", m::writeChapters, x::writeChapters);
                 CHECK.same("written", m.written, Check.written(x));
                 break;
@@ -219,13 +233,14 @@ public final class RunsTest {
                     same(run, "undo", m::undo, x::undo);
                 }
                 break;
-            case 68: put(x, m, text(between(0, 9), between(2, 27), below(4) > 0)); break;
+            case 68: put(x, m, text(between(2, 10), between(2, 27), below(2) > 0)); break;
             default: {
                 int length = near(0, m.buffer.length());
                 if (below(3) == 0) {
                     same(run, "load", () -> m.load(length), () -> x.load(length));
                 } else {
-                    int[] n5 = {(int) seed, below(99), -below(99), 1936025376, 0x20202020};
+                    int[] n5 = below(2) == 0 ? new int[] {0x73656731, 0x32203361, 0x62636465, 0x66206768, 0x69206a3b}
+                            : new int[] {(int) seed, below(99), -below(99), 1936025376, 0x20202020};
                     same(run, "append", () -> m.append(n5),
                             () -> x.append(n5[0], n5[1], n5[2], n5[3], n5[4]));
                 }
@@ -236,12 +251,12 @@ public final class RunsTest {
     }
 
     private static int settingValue(int setting) {
-        int[] usual = {150, 700, 5, 100, 12, 120};
-        int[] lowest = {1, 1, 1, 0, 0, 0};
+        int[] usual = {110, 700, 5, 100, 7, 60};
+        int[] lowest = {1, 150, 1, 0, 0, 0};
         if (setting < 0 || setting > 5) {
             return below(10);
         }
-        return below(6) == 0 ? near(Model.RANGES[setting][0], Model.RANGES[setting][1])
+        return below(20) == 0 ? near(Model.RANGES[setting][0], Model.RANGES[setting][1])
                 : near(lowest[setting], usual[setting]);
     }
 

@@ -79,6 +79,9 @@ public final class SetupTest {
         CHECK.equal("names like keywords", 1, Check.loadText(x, "seg 1 1 seg slot set seg;"));
         CHECK.equal("their number", 3, x.count(1));
         CHECK.equal("only the first bytes are read", 1, cutOff("seg 1 1 a;garbage!", 10));
+        CHECK.equal("no byte behind them: a semicolon", -2, cutOff("seg 1 1 a;", 9));
+        CHECK.equal("no byte behind them: digits", -3, cutOff("set 2 66", 7));
+        CHECK.equal("no byte behind them: letters", 2, wordsOf("seg 1 1 a b", "c;"));
         CHECK.equal("a word of 8 letters", 1, Check.loadText(x, "seg 999 99 zzzzzzzz;"));
         CHECK.equal("found", 0, x.find(Check.code("zzzzzzzz")));
         CHECK.equal("a later setting replaces", 0, Check.loadText(x, "set 3 10;set 3 11;"));
@@ -96,6 +99,16 @@ public final class SetupTest {
         ChapterBuilder x = new ChapterBuilder();
         Check.appendText(x, text);
         return x.load(length);
+    }
+
+    /** An error at the end of a text, with more text behind that end. */
+    private static int wordsOf(String text, String behind) {
+        ChapterBuilder x = new ChapterBuilder();
+        Check.appendText(x, text + behind);
+        CHECK.equal("load", -2, x.load(text.length()));
+        CHECK.equal("the end of the text", text.length(), x.errorPosition());
+        x.load(0);
+        return Check.show(text + ";").count(1);
     }
 
     private static void loadReplaces() {
@@ -159,6 +172,11 @@ public final class SetupTest {
         error("seg 1 1 `;", -2, 8);
         error("seg 1 / a;", -2, 6);
         error("seg 1 : a;", -2, 6);
+        error("seg 1 1 a".concat(" ".repeat(891)), -2, 900);
+        error(" ".repeat(891).concat("seg 1 1 a"), -2, 900);
+        error(" ".repeat(893).concat("seg 1 1"), -2, 900);
+        error(" ".repeat(897).concat("seg"), -2, 900);
+        error(" ".repeat(890).concat("seg 1 1 a;"), 1, -1);
         // the first error counts, even if the next is of another kind
         error("seg 1 1 a b? seg 0", -2, 11);
     }
