@@ -45,6 +45,9 @@ public final class TitlesTest {
         y.addWord(1, 1);
         CHECK.equal("b 3000: 9000 is too little", 2, y.typical(0));
         y.addWord(1, 1);
+        y.moveSegment(1, 3);
+        CHECK.equal("the last segment, too", 3, y.typical(0));
+        y.moveSegment(3, 1);
         CHECK.equal("b 4000: a word that stands 4 times counts 4 times", 1, y.typical(0));
     }
 
