@@ -173,7 +173,8 @@ public final class SlotsTest {
         CHECK.equal("all pauses", 4, x.choices(1));
         x.set(4, 10);
         CHECK.equal("no pause", 0, x.choices(1));
-        CHECK.equal("no boundary behind the last segment", 1, Check.show("slot 9 1 99;seg 9 9 a;seg 9 9 b;").choices(0));
+        ChapterBuilder two = Check.show("slot 9 1 99;seg 9 9 a;seg 9 9 b;");
+        CHECK.equal("no boundary behind the last segment", 1, two.choices(0));
         CHECK.equal("no segments", 0, Check.show("slot 1 1 1;").choices(0));
     }
 }
