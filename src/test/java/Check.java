@@ -7,9 +7,15 @@ final class Check {
         long answer();
     }
 
+    /** A call with one number to try. */
+    interface Asked {
+        long answer(int number);
+    }
+
     private static final int PRINTED = 40;
     private int checks;
     private int wrong;
+    private String about = "";
 
     void equal(String what, long due, long got) {
         checks++;
@@ -34,6 +40,37 @@ final class Check {
         same(what, "throws." + due.getSimpleName(), outcome(call));
     }
 
+    void answers(String what, Asked call, int... numbersAndAnswers) {
+        for (int i = 0; i < numbersAndAnswers.length; i += 2) {
+            int number = numbersAndAnswers[i];
+            same(what + " " + number, Integer.toString(numbersAndAnswers[i + 1]), outcome(() -> call.answer(number)));
+        }
+    }
+
+    void raisesAll(String what, Class<? extends RuntimeException> due, Asked call, int... numbers) {
+        for (int number : numbers) {
+            raises(what + " " + number, due, () -> call.answer(number));
+        }
+    }
+
+    /** The numbers next to a range, and those farthest from it. */
+    static int[] beside(int lowest, int highest) {
+        return new int[] {Integer.MIN_VALUE, lowest - 1, highest + 1, Integer.MAX_VALUE};
+    }
+
+    /** What the following checks are about, for the lines that they print. */
+    void about(String text) {
+        about = text.isEmpty() ? "" : text + ": ";
+    }
+
+    int checks() {
+        return checks;
+    }
+
+    int wrong() {
+        return wrong;
+    }
+
     static String outcome(Call call) {
         try {
             return Long.toString(call.answer());
@@ -52,7 +89,7 @@ final class Check {
     private void report(String line) {
         wrong++;
         if (wrong <= PRINTED) {
-            System.out.println(line);
+            System.out.println(about + line);
         }
     }
 

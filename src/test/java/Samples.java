@@ -10,6 +10,9 @@ final class Samples {
     /** With the least duration 40 the best division is {1, 2, 3}, with the worth 147. */
     static final String SHORT_CHAPTERS = "set 0 40;" + HARBOUR;
 
+    /** 24 different words, a to x, eight in each of three segments. */
+    static final String LETTERS = "seg 1 0 a b c d e f g h;seg 1 0 i j k l m n o p;seg 1 0 q r s t u v w x;";
+
     static final Class<IllegalArgumentException> ARGUMENT = IllegalArgumentException.class;
     static final Class<IllegalStateException> STATE = IllegalStateException.class;
     static final Class<IndexOutOfBoundsException> INDEX = IndexOutOfBoundsException.class;
