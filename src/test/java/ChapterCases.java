@@ -104,6 +104,8 @@ final class ChapterCases {
             ChapterBuilder y = Check.show("set 0 1;set 3 100;" + Samples.LETTERS);
             y.removeSegment(0);
             c.equal("words that stand nowhere do not count", 16, y.chapter(0, 3));
+            ChapterBuilder all = Cases.row(32, 9, "set 0 9;set 1 9;");
+            c.answers("of 32 chapters", n -> all.chapter(n, 3), 0, 1, 15, 1, 31, 1);
         });
         s.hold("4: the real time of its first segment", c -> {
             c.answers("4", n -> x.chapter(n, 4), 0, 0, 1, 70, 2, 145, 3, 205);
@@ -326,14 +328,35 @@ final class ChapterCases {
             c.equal("a change of 75", 74, changeOf("a", "a b c d").priceFor(2));
             c.equal("a change of 13", 12, changeOf("a b c d e f g", "a b c d e f g h").priceFor(2));
             c.equal("a change of 100", 99, changeOf("a", "b").priceFor(2));
-            // 39 words of 40, with 50 seconds on each side
-            c.equal("a change of 3, the lowest above 0", 2, Check.show("set 0 50;set 2 5;"
-                    + "seg 10 0 a a a a a a a a;".repeat(9) + "seg 10 0 a a a a a a a;").priceFor(2));
+            // nearly each likeness there is: the number of a word in 40 words of one side, and in those of the other
+            boolean[] seen = new boolean[100];
+            for (int more = 1; more <= 40; more++) {
+                for (int less = 1; less < more; less++) {
+                    int alike = 100 * less / more;
+                    if (!seen[alike]) {
+                        seen[alike] = true;
+                        ChapterBuilder y = Check.show("set 2 5;" + minute(less) + minute(more));
+                        c.equal("a likeness of " + alike, 99 - alike, y.priceFor(2));
+                    }
+                }
+            }
+            c.isTrue("the lowest change above 0 is 3", seen[97] && !seen[98] && !seen[99]);
         });
     }
 
     private static ChapterBuilder changeOf(String one, String other) {
         return Check.show("set 0 1;seg 9 0 " + one + ";seg 9 0 " + other + ";");
+    }
+
+    /** 60 seconds, the least duration of a chapter, in which a word stands up to 40 times. */
+    private static String minute(int times) {
+        int segments = (times + 7) / 8;
+        StringBuilder text = new StringBuilder();
+        for (int i = 0; i < segments; i++) {
+            int here = times / segments + (i < times % segments ? 1 : 0);
+            text.append("seg ").append(60 / segments).append(" 0").append(" a".repeat(here)).append(';');
+        }
+        return text.toString();
     }
 
     private static void priceForRefused(Sentences s) {

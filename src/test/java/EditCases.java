@@ -132,7 +132,37 @@ final class EditCases {
                     x.removeSegment(1);
                     x.undo();
                     c.equal("a segment that is back is the same one", 50, x.carried(50));
+                    keptSizes(c);
                 });
+    }
+
+    /** A version of one segment in place of one of five, and the other way round. */
+    private static void keptSizes(Check c) {
+        ChapterBuilder x = Check.show(Samples.HARBOUR);
+        x.keep();
+        for (int left = 4; left > 0; left--) {
+            x.removeSegment(left);
+        }
+        x.keep();
+        c.raises("one segment", Samples.ARGUMENT, () -> x.carried(40));
+        for (int i = 0; i < 5; i++) {
+            x.undo();
+        }
+        c.equal("the last of five again", 224, x.carried(224));
+        ChapterBuilder y = Check.show(Samples.HARBOUR);
+        for (int left = 4; left > 0; left--) {
+            y.removeSegment(left);
+        }
+        y.keep();
+        for (int i = 0; i < 5; i++) {
+            y.undo();
+        }
+        y.removeSegment(1);
+        y.undo();
+        y.keep();
+        c.equal("the last of five", 224, y.carried(224));
+        y.undo();
+        c.raises("none again", Samples.STATE, () -> y.carried(0));
     }
 
     private static void stays(Sentences s) {
@@ -269,6 +299,18 @@ final class EditCases {
                 x.removeSegment(0);
             }
             c.answers("all of them", n -> x.carried(n), 0, 0, 100, 0, 224, 0);
+            ChapterBuilder full = Cases.row(32, 9, "");
+            full.keep();
+            full.removeSegment(31);
+            c.answers("the last of 32", n -> full.carried(n), 278, 278, 279, 279, 287, 279);
+            // a shorter version in place of one that had the segment 4 at its end
+            ChapterBuilder y = Check.show(Samples.HARBOUR);
+            y.keep();
+            y.moveSegment(4, 0);
+            y.removeSegment(1);
+            y.keep();
+            y.removeSegment(3);
+            c.answers("only the version that is kept counts", n -> y.carried(n), 124, 124, 125, 125, 184, 125);
         });
     }
 

@@ -178,7 +178,7 @@ public final class LimitsTest {
         CHECK.equal("all words", 256, x.count(4));
         CHECK.equal("the last removed", 31, x.removeSegment(31));
         CHECK.equal("brought back", 1, x.undo());
-        for (int call = 0; call < 400; call++) {
+        for (int call = 0; call < 150; call++) {
             x.moveSegment(call % 32, call * 7 % 32);
             CHECK.equal("32 segments", 32, x.count(0));
         }

@@ -118,6 +118,14 @@ final class SlotCases {
                     x.set(5, 9999);
                     x.removeSlot(1);
                     c.equal("one slot is apart from none", 0, x.placeOf(0));
+                    // 90 seconds if the boundaries 0 and 2 are not too near
+                    ChapterBuilder y = Check.show("slot 100 20 60;slot 110 15 80;" + Samples.SHORT_CHAPTERS);
+                    y.set(5, 80);
+                    c.same("80 of 80", "0 2 ", Cases.places(y));
+                    c.equal("80 of 80", 90, y.placementCost());
+                    y.set(5, 81);
+                    c.same("80 of 81", "0 3 ", Cases.places(y));
+                    c.equal("80 of 81", 150, y.placementCost());
                     ChapterBuilder far = Cases.row(12, 999, "set 5 9990;slot 0 1 999;slot 9999 1 999;");
                     c.same("10 segments of 999 seconds between them", "0 10 ", Cases.places(far));
                     far.set(5, 9991);
@@ -161,6 +169,10 @@ final class SlotCases {
             c.equal("one slot", 20, x.placementCost());
             x.removeSlot(0);
             c.equal("no slot", 0, x.placementCost());
+            ChapterBuilder y = Check.show("slot 120 1 0;" + Samples.SHORT_CHAPTERS);
+            c.equal("a cut", 0, y.placementCost());
+            y.set(0, 226);
+            c.equal("it is none any more", 20, y.placementCost());
         });
     }
 

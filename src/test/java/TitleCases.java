@@ -123,6 +123,8 @@ final class TitleCases {
             c.equal("twice a, once b", 1, whole("seg 9 0 b;seg 9 0 a a;seg 9 0 b;seg 9 0 b;seg 9 0 b;seg 9 0 a;")
                     .typical(0));
             c.equal("8 times", 1, whole("seg 9 0 a b;seg 9 0 a a a a a a a a;").typical(0));
+            c.equal("the only word", 1, whole("seg 9 0 b;seg 9 0 a;seg 9 0 a;").typical(0));
+            c.equal("256 words", 0, whole("seg 9 0 a b c d e f g h;".repeat(32)).typical(0));
         });
         s.hold("`chapter`: number of a chapter", c -> {
             ChapterBuilder y = single("seg 9 0 a;".repeat(32));
